@@ -452,6 +452,11 @@ public final class CoastTiles {
         return lines >= 1 && lines <= MOST_LINES;
     }
 
+    /** The arrays hold no line beyond MOST_LINES, so what passes here is safe as an index. */
+    private static boolean isLineOf(int line, int lines) {
+        return line >= 0 && line < lines && line < MOST_LINES;
+    }
+
     private static boolean isShape(int shape) {
         return shape >= 0 && shape < SHAPES;
     }
@@ -483,7 +488,7 @@ public final class CoastTiles {
         return mask & bitsThatCount(mask);
     }
 
-    /** The bits of a share from 0 to 1 as a float; the loop makes the leading 1 of its fraction stand ahead of the point. */
+    /** The bits of a share from 0 to 1; doubling is exact, and ends with the leading 1 ahead of the point. */
     private static int bitsOfShare(float share) {
         if (share <= 0f) {
             return 0;
@@ -622,7 +627,7 @@ public final class CoastTiles {
         }
 
         boolean has(int row, int column) {
-            return row >= 0 && row < height && column >= 0 && column < width;
+            return isLineOf(row, height) && isLineOf(column, width);
         }
 
         boolean isLandAt(int row, int column) {
@@ -767,7 +772,7 @@ public final class CoastTiles {
             return place >= 0 && place < MOST_TILES ? steps[place] : UNREACHED;
         }
 
-        /** The tiles that it reached ahead of this stay reached; reachedTiles and reachedEdge tell of this region alone. */
+        /** What it reached ahead of this stays reached, but reachedTiles and reachedEdge tell of this region alone. */
         void overRegion(State map, int row, int column, int directionStep) {
             reachedTiles = 0;
             reachedEdge = false;
@@ -793,7 +798,10 @@ public final class CoastTiles {
         }
 
         private void reach(State map, int row, int column, int stepsToIt) {
-            if (!map.has(row, column) || hasReached(row, column) || reachedTiles >= MOST_TILES) {
+            if (!map.has(row, column) || hasReached(row, column)) {
+                return;
+            }
+            if (reachedTiles < 0 || reachedTiles >= MOST_TILES) {
                 return;
             }
             int place = row * MOST_LINES + column;

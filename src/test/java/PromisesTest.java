@@ -130,6 +130,8 @@ public final class PromisesTest {
         x.pin(3, 3, 7);
         due("2 begin(12, 12)", x.begin(12, 12), 144);
         due("2 all water", x.land(), 0);
+        due("2 water has no pin", x.tile(3, 3, 4), 0);
+        due("2 nothing to unpin", x.unpin(3, 3), NOT_POSSIBLE);
         due("2 outside as before", x.tile(0, 0, 1), 1 + 2 + 32 + 64 + 128);
         x.set(3, 3, true);
         due("2 no pin", x.tile(3, 3, 4), 0);
@@ -182,6 +184,7 @@ public final class PromisesTest {
         x.set(0, 1, true);
         due("4 a pin stays on land", x.tile(0, 1, 3), 4);
         x.set(0, 1, false);
+        due("4 water has no pin", x.unpin(0, 1), NOT_POSSIBLE);
         x.set(0, 1, true);
         due("4 a pin goes with water", x.tile(0, 1, 4), 0);
         CoastTiles y = drawn("#./.#");
@@ -441,6 +444,10 @@ public final class PromisesTest {
         due("15 by rows", x.firstFault(), 209);
         x.pin(2, 8, 46);
         due("15 a pin that fits is no fault", x.firstFault(), 209);
+        x.pin(1, 11, x.shapeOf(1 + 16));
+        due("15 several bits", x.tile(1, 11, 5) * 10000 + x.firstFault(), 30111);
+        x.pin(1, 4, x.shapeOf(253));
+        due("15 a single bit", x.tile(1, 4, 5) * 10000 + x.firstFault(), 10104);
         x.pin(0, 0, 0);
         due("15 first", x.firstFault(), 0);
     }
@@ -547,6 +554,10 @@ public final class PromisesTest {
         due("21 the same", x.shapes(), 2);
         x.begin(12, 12);
         due("21 none", x.shapes(), 0);
+        x.setOutside(true);
+        due("21 places outside have none", x.shapes(), 0);
+        due("20 places outside have none", x.count(46), 0);
+        x.setOutside(false);
         x.fill(0, 0, true);
         due("21 of a full map", x.shapes(), 9);
         for (int shape = 0; shape < 47; shape++) {
@@ -644,6 +655,8 @@ public final class PromisesTest {
         due("28 the larger one", drawn("#.2#").largestIsland(), 2);
         due("28 not the later one", drawn("2#.#").largestIsland(), 0);
         due("28 first tile row by row", drawn("3./2.#/.#.").largestIsland(), 102);
+        due("28 by corners", drawn("2#.#/4./3.#/2.#.").largestIsland(), 0);
+        due("28 by corners", drawn("2#2./4./3.#/2.#./.#2.").largestIsland(), 203);
         due("28 alike, row by row", drawn("3.#/#3./#2.#").largestIsland(), 100);
         CoastTiles x = new CoastTiles();
         x.begin(12, 12);
@@ -705,6 +718,11 @@ public final class PromisesTest {
         due("31 all", x.needs(1, 1, 46), 8);
         due("31 sides", x.needs(1, 1, x.shapeOf(85)), 4);
         due("31 outside is water", x.needs(0, 1, 1), NONE);
+        due("31 right of the left edge", x.needs(1, 0, x.shapeOf(4)), 1);
+        due("31 left of the left edge", x.needs(1, 0, x.shapeOf(64)), NONE);
+        due("31 left of the right edge", x.needs(1, 2, x.shapeOf(64)), 1);
+        due("31 below the last row", x.needs(2, 1, x.shapeOf(16)), NONE);
+        due("31 above the last row", x.needs(2, 1, x.shapeOf(1)), 1);
         due("31 outside corner is water", x.needs(0, 1, x.shapeOf(4 + 64)), 2);
         CoastTiles full = drawn("3#/3#/3#");
         due("31 corners that do not count", full.needs(1, 1, 0), 4);
