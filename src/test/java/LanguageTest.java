@@ -9,10 +9,14 @@ import java.util.ArrayList;
 import java.util.List;
 import java.util.Set;
 import java.util.TreeSet;
+import java.util.regex.Matcher;
+import java.util.regex.Pattern;
 
 /** What LANGUAGE.md asks and a program can see: the face, and words that the rules leave out. */
 public final class LanguageTest {
     private static final Path SOURCE = Path.of("src/main/java/CoastTiles.java");
+    private static final Path DOCUMENT = Path.of("../shared/DOC.md");
+    private static final Pattern GROUP = Pattern.compile("Ahead of the calls (.*) the interface says: ---- (.*)\\.");
     private static final String CONSTANTS = "BAD_TEXT BAD_VALUE LIMIT NONE NOT_POSSIBLE NO_SUCH";
     private static final List<String> FACE = List.of(
             "begin(int,int)", "setOutside(boolean)", "set(int,int,boolean)", "fill(int,int,boolean)",
@@ -24,10 +28,13 @@ public final class LanguageTest {
             "read()", "undo()", "save()", "restore()");
 
     public static void main(String[] args) throws IOException {
+        Source source = new Source(SOURCE);
         face();
+        groups(source);
         namesOfOwnMethods();
-        words();
-        objectsAreMadeInConstructorsAlone();
+        sizes(source);
+        words(source);
+        objectsAreMadeInConstructorsAlone(source);
         Checks.end();
     }
 
@@ -83,21 +90,48 @@ public final class LanguageTest {
         }
     }
 
-    private static List<String> codeLines() throws IOException {
-        List<String> lines = new ArrayList<>();
-        for (String line : Files.readAllLines(SOURCE)) {
-            String code = line.strip();
-            if (!code.startsWith("//") && !code.startsWith("*") && !code.startsWith("/*")) {
-                lines.add(code);
+    /** What the document says ahead of the calls stands there, and the calls stand under it in their order. */
+    private static void groups(Source source) throws IOException {
+        int told = 0;
+        for (String line : Files.readAllLines(DOCUMENT)) {
+            Matcher group = GROUP.matcher(line);
+            if (group.matches()) {
+                told++;
+                List<String> calls = List.of(group.group(1).replace("`", "").split(", "));
+                List<String> own = source.groups().get(group.group(2));
+                Checks.holds("under " + group.group(2) + ": " + own, calls.equals(own));
             }
         }
-        return lines;
+        Checks.due("groups of calls in the document", told, 6);
     }
 
-    private static void words() throws IOException {
+    private static void sizes(Source source) {
+        Checks.holds("each method has a name of its own", !source.hasNamesAlike());
+        source.bodies().forEach((name, body) -> {
+            Checks.holds(name + " has at most sixty lines", body.size() <= 60);
+            Checks.holds(name + " goes at most eight calls deep", source.depthOf(name) <= 8);
+        });
+        List<Class<?>> all = new ArrayList<>(List.of(CoastTiles.class.getDeclaredClasses()));
+        all.add(CoastTiles.class);
+        int methods = 0;
+        for (Class<?> each : all) {
+            int fields = 0;
+            for (Field field : each.getDeclaredFields()) {
+                fields += Modifier.isStatic(field.getModifiers()) ? 0 : 1;
+            }
+            Checks.holds(each + " has at most twenty fields", fields <= 20);
+            for (Method method : each.getDeclaredMethods()) {
+                methods++;
+                Checks.holds(method + " takes at most seven parameters", method.getParameterCount() <= 7);
+            }
+        }
+        Checks.due("methods found in the source", source.bodies().size(), methods);
+    }
+
+    private static void words(Source source) {
         String forbidden = ".*(\\b(try|catch|throw|throws|finally|synchronized|assert|package|String|Object|hashCode"
                 + "|toString|protected|Float|Double|while|do)\\b|->|::|Exact|static \\{).*";
-        for (String code : codeLines()) {
+        for (String code : source.code()) {
             Checks.holds("the rules allow: " + code, !code.matches(forbidden));
             Checks.holds("only Arrays is imported: " + code,
                     !code.startsWith("import") || code.equals("import java.util.Arrays;"));
@@ -106,8 +140,8 @@ public final class LanguageTest {
     }
 
     /** So no run of calls can make more objects than its constructors did. */
-    private static void objectsAreMadeInConstructorsAlone() throws IOException {
-        for (String code : codeLines()) {
+    private static void objectsAreMadeInConstructorsAlone(Source source) {
+        for (String code : source.code()) {
             if (code.matches(".*\\b(new|clone|copyOf|copyOfRange)\\b.*")) {
                 Checks.holds("only rows made once: " + code,
                         code.startsWith("private final ") || code.equals("states[index] = new State();"));
